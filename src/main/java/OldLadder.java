@@ -328,10 +328,7 @@ public final class OldLadder {
             below *= ALL_TENTHS;
         }
         long above = weightOfUp(stride);
-        long common = commonDivisor(above, below);
-        if (common <= 0) {
-            return NOT;
-        }
+        long common = Math.max(1, commonDivisor(above, below));
         return part == 0 ? above / common : below / common;
     }
 
@@ -546,18 +543,13 @@ public final class OldLadder {
     private static int nthRung(int set, int n) {
         int left = n;
         for (int rung = 1; rung <= MOST_HEIGHT; rung++) {
-            if (holds(set, rung)) {
-                if (left == 0) {
-                    return rung;
-                }
-                left--;
+            int has = set >> (rung - 1) & 1;
+            if (has == 1 && left == 0) {
+                return rung;
             }
+            left -= has;
         }
         return NONE;
-    }
-
-    private static int highest(int set) {
-        return nthRung(set, Integer.bitCount(set) - 1);
     }
 
     private static String spelling(int word) {
@@ -642,7 +634,11 @@ public final class OldLadder {
             words[line] = word;
             switch (word) {
                 case WORD_LADDER:
-                    return ladderStands(line);
+                    if (!numberStands(firsts, line, 1, MOST_HEIGHT)) {
+                        return false;
+                    }
+                    height = value;
+                    return true;
                 case WORD_GONE:
                 case WORD_SOUND:
                     return numberStands(firsts, line, 1, height);
@@ -652,7 +648,9 @@ public final class OldLadder {
                 case WORD_NEAR:
                 case WORD_MIDDLE:
                 case WORD_TOLD:
-                    return climberStands(line);
+                    people++;
+                    // A sixth is a fault at his word, so no token is read behind it.
+                    return people <= MOST_CLIMBERS && numberStands(firsts, line, 1, MOST_REACH);
                 case WORD_LOAD:
                     return numberStands(firsts, line, 0, people - 1) && numberStands(seconds, line, 0, MOST_LOAD);
                 case WORD_NOBODY:
@@ -661,23 +659,6 @@ public final class OldLadder {
                 default:
                     return false;
             }
-        }
-
-        private boolean ladderStands(int line) {
-            if (!numberStands(firsts, line, 1, MOST_HEIGHT)) {
-                return false;
-            }
-            height = value;
-            return true;
-        }
-
-        private boolean climberStands(int line) {
-            // A sixth is a fault at his word, so no token is read behind it.
-            if (people >= MOST_CLIMBERS) {
-                return false;
-            }
-            people++;
-            return numberStands(firsts, line, 1, MOST_REACH);
         }
 
         private boolean numberStands(int[] row, int line, int low, int high) {
@@ -944,7 +925,7 @@ public final class OldLadder {
         }
 
         int pick(int within) {
-            return highest(within);
+            return nthRung(within, Integer.bitCount(within) - 1);
         }
     }
 
@@ -988,8 +969,8 @@ public final class OldLadder {
         }
 
         int pick(int within) {
-            int heeded = within & minded;
-            return highest(heeded == 0 ? within : heeded);
+            int heeded = (within & minded) == 0 ? within : within & minded;
+            return nthRung(heeded, Integer.bitCount(heeded) - 1);
         }
     }
 

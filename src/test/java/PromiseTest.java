@@ -498,7 +498,6 @@ public final class PromiseTest {
         is("none is in his stride", y.climb(3), 0);
         is("and none here", y.climb(2), 0);
         is("from where he is", y.climb(1), 0);
-        y.back(0);
         OldLadder z = Due.told("ladder 7;far 3;told 3;middle 3;near 6");
         z.step(0, 1);
         is("from where he is", z.climb(0), 8);
@@ -551,10 +550,12 @@ public final class PromiseTest {
         is("the first one", x.judge(0, 0b00001000), 4);
         is("3 for another", x.judge(1, 0b00100100), 3);
         is("6 feet", x.judge(2, 0b00000100), NONE);
+        x.step(2, 1);
+        is("1 is spent now", x.judge(0, 0b00100101), 1);
         x.step(0, 3);
         is("3 is spent now, for him too", x.judge(0, 0b00100100), 3);
         is("from the ground", x.judge(0, 0b00100000), 6);
-        is("nothing changes", x.count(3), 0b100);
+        is("nothing changes", x.count(3), 0b101);
         is("he is there", x.climber(0, 4), 3);
     }
 
@@ -842,6 +843,9 @@ public final class PromiseTest {
         isOdds(gaps, 3, 57, 80);
         isOdds(gaps, 4, 4, 5);
         isOdds(gaps, 5, 1, 1);
+        OldLadder wide = Due.told("ladder 7;gone 1;gone 2;gone 3;gone 4;gone 5;weak 6 3;weak 7 5");
+        isOdds(wide, 5, 0, 1);
+        isOdds(wide, 6, 3, 10);
         OldLadder edges = Due.told("ladder 4;weak 1 0;weak 2 10;weak 3 0;gone 4");
         isOdds(edges, 1, 0, 1);
         isOdds(edges, 2, 0, 1);
