@@ -28,6 +28,7 @@ public final class ClimbEdgeTest {
         judgesSets();
         keeps();
         backAsKept();
+        backToWhoStepped();
         backSinceTheLastText();
         imagesOfAll();
         DUE.end("ClimbEdgeTest");
@@ -429,6 +430,29 @@ public final class ClimbEdgeTest {
         is("again to 0", x.back(0), 2);
         is("climbs from there", x.climb(0), 10);
         is("is not kept by it", x.back(0), 2);
+    }
+
+    private static void backToWhoStepped() {
+        DUE.about("promises 6, 15: who stepped on it, as it was kept");
+        for (int i = 0; i < 2; i++) {
+            OldLadder x = done("ladder 20;near 1;told 1");
+            is("none", x.keep(0), 0);
+            x.climb(i);
+            is("all", x.keep(1), 20);
+            x.back(0);
+            x.climb(1 - i);
+            for (int r = 1; r <= 20; r++) {
+                is("the other one", x.rung(r, 3), 1 - i);
+            }
+            is("back", x.back(1), 20);
+            for (int r = 1; r <= 20; r++) {
+                is("he", x.rung(r, 3), i);
+            }
+            is("back to none", x.back(0), 0);
+            for (int r = 1; r <= 20; r++) {
+                is("nobody", x.rung(r, 3), NONE);
+            }
+        }
     }
 
     private static void backSinceTheLastText() {

@@ -32,6 +32,7 @@ public final class ForetoldEdgeTest {
         bothCut();
         oddsInLowestTerms();
         oddsOfTenths();
+        oddsAskedAgain();
         oddsOfTwelve();
         fitsJustThese();
         fitsSets();
@@ -437,6 +438,21 @@ public final class ForetoldEdgeTest {
             y.step(0, 1);
             isOdds("1 is spent", y, 3, terms[p][0], terms[p][1]);
         }
+    }
+
+    private static void oddsAskedAgain() {
+        DUE.about("promise 23: SOUND ones hold; asked again, the same");
+        OldLadder x = done("ladder 7;weak 3 5;weak 4 5;weak 5 5;weak 6 5;weak 7 5");
+        OldLadder y = done("ladder 7;gone 2;weak 3 5;weak 4 5;weak 5 5;weak 6 5;weak 7 5");
+        for (int times = 0; times < 3; times++) {
+            isOdds("from 2 to the top", x, 6, 1, 1);
+            isOdds("from 2 by one of 3 .. 7", x, 5, 31, 32);
+            isOdds("from 1 by one of 3 .. 7", y, 6, 31, 32);
+            isOdds("by each of them", x, 1, 1, 32);
+        }
+        isOdds("by the sound one between", done("ladder 3;weak 1 5;weak 3 5"), 2, 1, 1);
+        isOdds("by both", done("ladder 3;weak 1 5;weak 3 5"), 1, 1, 4);
+        isOdds("by 2 3", done("ladder 4;weak 1 0;weak 4 0"), 2, 1, 1);
     }
 
     /** A ladder of 20, of which the first so many are weak by those tenths. */

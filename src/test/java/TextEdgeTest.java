@@ -518,6 +518,10 @@ public final class TextEdgeTest {
             is("it has a fault then", x.fault(), 0);
             is("no lines", x.ladder(), NOT);
         }
+        OldLadder first = done("gone 8;" + lines(11, "sound 1"));
+        is("the first of 12 is done", first.count(4), 128);
+        OldLadder last = done(lines(11, "sound 1") + ";gone 8");
+        is("the last of 12 is done", last.count(4), 128);
         OldLadder y = withBytes(200);
         is("of 200 bytes", y.ladder(), 1);
         is("it is empty", y.count(6), 0);
